@@ -24,6 +24,8 @@ public final class GooseIce {
     private static final int GAPS = 6;
     private static final int DAYS = 10;
     private static final int SUBSETS = 1024;
+    // Above all STEPS, WEIGHTS and groups that can be.
+    private static final int ENDLESS = 1000000;
 
     private static final int WRONG = 1;
     private static final int MISSING = 2;
@@ -999,7 +1001,7 @@ public final class GooseIce {
         }
 
         private int bestLast(int s, int most, int[] row) {
-            int best = Integer.MAX_VALUE;
+            int best = ENDLESS;
             for (int w = 0; w < count; w++) {
                 if ((s >> w & 1) != 0) {
                     int before = row[s ^ 1 << w];
@@ -1271,7 +1273,7 @@ public final class GooseIce {
             crew.advance(walker, cell);
             if ((sheet.broken >> cell & 1) != 0) {
                 crew.soak(1 << walker);
-            } else if (isIce(cell)) {
+            } else if ((shores >> cell & 1) == 0) {
                 sheet.enter(cell, slot);
             }
         }
@@ -1345,14 +1347,14 @@ public final class GooseIce {
         }
 
         private int leastOnRoute(int walker) {
-            int least = Integer.MAX_VALUE;
+            int least = ENDLESS;
             for (int k = 0; k < crew.remaining(walker); k++) {
                 int cell = crew.ahead(walker, k);
                 if (isIce(cell)) {
                     least = Math.min(least, crew.weight[walker] + spare(walker, cell));
                 }
             }
-            return least == Integer.MAX_VALUE ? NONE : Math.max(0, least);
+            return least == ENDLESS ? NONE : Math.max(0, least);
         }
 
         private int frailest() {
@@ -1990,14 +1992,17 @@ public final class GooseIce {
             }
             System.arraycopy(path, 0, row, 0, n);
             cells = n;
-            best = Integer.MAX_VALUE;
+            best = ENDLESS;
             gather(set);
+            if (many < 1) {
+                return NONE;
+            }
             for (int code = 0; code < 1 << 2 * many; code++) {
                 if (arrange(code)) {
                     startFirst(lake);
                 }
             }
-            return best == Integer.MAX_VALUE ? NONE : best;
+            return best == ENDLESS ? NONE : best;
         }
 
         // Who comes into BROKEN ICE is WET and never at the end; what is whole must not break anyway.

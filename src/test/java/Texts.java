@@ -53,7 +53,7 @@ final class Texts {
         for (int k = 0; k < n; k++) {
             String name = newName(taken);
             cells.add(name);
-            if (random.nextInt(3) == 0 || k == 0) {
+            if (random.nextInt(3) == 0 || k == n - 1 && shores.isEmpty()) {
                 shores.add(name);
                 part(out, "shore", name);
             } else {

@@ -4,6 +4,7 @@ public final class WaysTest {
         margins();
         ways();
         firstOfShortest();
+        longWays();
         surest();
         reach();
         cuts();
@@ -88,6 +89,24 @@ public final class WaysTest {
         x.hew(6, 5, true);
         Check.well("a shorter one by a higher CELL", x, x.wayAt(0, 5, 0), 6);
         Check.well("far(0, 5)", x, x.far(0, 5), 2);
+    }
+
+    private static void longWays() {
+        StringBuilder b = new StringBuilder();
+        for (char c = 'a'; c <= 'j'; c++) {
+            b.append("shore ").append(c).append(';');
+        }
+        for (char c = 'a'; c < 'j'; c++) {
+            b.append("way ").append(c).append(' ').append((char) (c + 1)).append(';');
+        }
+        GooseIce x = Check.on(b + "walker v weighs 1 at a;");
+        Check.well("far along ten CELLS", x, x.far(0, 9), 9);
+        for (int k = 0; k < 9; k++) {
+            Check.well("wayAt(0, 9, " + k + ")", x, x.wayAt(0, 9, k), k + 1);
+        }
+        x.hew(0, 1, false);
+        Check.none("far along nine CELLS to nobody", x, x.far(0, 9), 6);
+        Check.none("surest along nine CELLS to nobody", x, x.surest(0, 9), 6);
     }
 
     private static void surest() {
@@ -215,6 +234,7 @@ public final class WaysTest {
         Check.none("ready(2, 1)", x, x.ready(2, 1), 1);
         Check.well("ready(1, 20)", x, x.ready(1, 20), 0);
         Check.none("ready(1, 21)", x, x.ready(1, 21), 6);
+        Check.none("ready(1, 999)", x, x.ready(1, 999), 6);
         x.sendTo(0, 1);
         x.step(1);
         x.sendTo(1, 1);
@@ -233,5 +253,10 @@ public final class WaysTest {
         y.sendTo(0, 1);
         y.step(1);
         Check.well("ready in 20 STEPS", y, y.ready(1, 21), 20);
+        GooseIce z = Check.on("ice a bears 20;shore s;way s a;hour 1;walker v weighs 1 at s;");
+        z.sendTo(0, 0);
+        z.step(1);
+        Check.well("ready with an HOUR of 1: now", z, z.ready(0, 18), 0);
+        Check.well("ready with an HOUR of 1: in the next STEP", z, z.ready(0, 21), 1);
     }
 }

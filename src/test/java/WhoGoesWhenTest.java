@@ -154,6 +154,13 @@ public final class WhoGoesWhenTest {
         x.halt(3);
         x.weigh(0, 99);
         Check.well("holds() asks no STEP when nobody walks", x, x.holds(), 0);
+        GooseIce y = Check.on("shore s;shore t;ice a bears 3;way s t;way t a;way s a;walker v weighs 9 at s;");
+        y.tray(0, 0, 20);
+        for (int k = 0; k < 20; k++) {
+            y.write(0, k, k == 19 ? 2 : 1 - k % 2);
+        }
+        Check.well("send along twenty", y, y.send(0, 0, 20), 20);
+        Check.well("holds(): the twentieth STEP", y, y.holds(), 20);
     }
 
     private static GooseIce crew() {
