@@ -1049,6 +1049,7 @@ public final class GooseIce {
         private final int[] ways = new int[CELLS];
         private final int[] besides = new int[CELLS];
         private final int[] inside = new int[CELLS];
+        private final int[] loads = new int[CELLS];
         private final Ice sheet = new Ice();
         private final Crew crew = new Crew();
         private final Tales tales = new Tales();
@@ -1149,14 +1150,18 @@ public final class GooseIce {
             int who = inside[cell];
             int near = besides[cell];
             for (int c = 0; c < cells && near != 0; c++) {
-                if ((near >> c & 1) != 0) {
+                if ((near & 1) != 0) {
                     who |= inside[c];
                 }
+                near >>= 1;
             }
             who &= ~crew.wet & ~without;
             int sum = 0;
             for (int w = 0; w < crew.count && who != 0; w++) {
-                sum += (who >> w & 1) * crew.weight[w];
+                if ((who & 1) != 0) {
+                    sum += crew.weight[w];
+                }
+                who >>= 1;
             }
             return sum;
         }
@@ -1256,8 +1261,13 @@ public final class GooseIce {
                     moveOne(w, slot);
                 }
             }
+            weighAll();
             int cracked = overloaded();
-            crack(cracked);
+            if (cracked != 0) {
+                crack(cracked);
+                // Who became WET is no LOAD any more.
+                weighAll();
+            }
             noteLoads();
             return cracked;
         }
@@ -1278,11 +1288,17 @@ public final class GooseIce {
             }
         }
 
+        private void weighAll() {
+            for (int c = 0; c < cells; c++) {
+                loads[c] = load(c, 0);
+            }
+        }
+
         private int overloaded() {
             int set = 0;
             int ask = whole();
             for (int c = 0; c < cells; c++) {
-                if ((ask >> c & 1) != 0 && load(c, 0) > strength(c)) {
+                if ((ask >> c & 1) != 0 && loads[c] > strength(c)) {
                     set |= 1 << c;
                 }
             }
@@ -1302,7 +1318,7 @@ public final class GooseIce {
             int ask = whole();
             for (int c = 0; c < cells; c++) {
                 if ((ask >> c & 1) != 0) {
-                    sheet.most[c] = Math.max(sheet.most[c], load(c, 0));
+                    sheet.most[c] = Math.max(sheet.most[c], loads[c]);
                 }
             }
         }
