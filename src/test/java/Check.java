@@ -36,6 +36,20 @@ final class Check {
         due("status() behind " + call, x.status(), 0);
     }
 
+    /** A call that is carried out: true, and STATUS 0. */
+    static void yes(String call, GooseIce x, boolean got) {
+        due(call, got, true);
+        due("status() behind " + call, x.status(), 0);
+    }
+
+    static void same(String call, String got, String want) {
+        asked++;
+        if (!got.equals(want)) {
+            wrong++;
+            System.out.println(call + " left\n  " + got + "\ndue is\n  " + want);
+        }
+    }
+
     static void fraction(String call, GooseIce x, boolean got, long top, long bottom) {
         due(call, got, true);
         due("status() behind " + call, x.status(), 0);
@@ -65,6 +79,23 @@ final class Check {
 
     static int tales(GooseIce x, String text) {
         return x.tales(feed(x, text));
+    }
+
+    static void lakeFault(String text, int kind, int place) {
+        GooseIce x = new GooseIce();
+        none("lake of '" + text + "'", x, lake(x, text), 9);
+        faultIs(x, text, kind, place);
+    }
+
+    static void talesFault(String lake, String text, int kind, int place) {
+        GooseIce x = on(lake);
+        none("tales of '" + text + "'", x, tales(x, text), 9);
+        faultIs(x, text, kind, place);
+    }
+
+    private static void faultIs(GooseIce x, String text, int kind, int place) {
+        due("fault(0) of '" + text + "'", x.fault(0), kind);
+        due("fault(1) of '" + text + "'", x.fault(1), place);
     }
 
     static GooseIce on(String text) {
