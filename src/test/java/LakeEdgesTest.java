@@ -16,6 +16,7 @@ public final class LakeEdgesTest {
         breaksByWhatIsThen();
         dueAheadOfBreaking();
         brokenIsForgotten();
+        brokenIsForgottenBesideOthers();
         wetOnes();
         frostBounds();
         thawBounds();
@@ -120,7 +121,8 @@ public final class LakeEdgesTest {
 
     private static void loadIsBeside() {
         // a - b - c are BESIDE each other in a row: what is in c counts in b, not in a.
-        GooseIce x = Check.on("shore s;ice a bears 50;ice b bears 50;ice c bears 50;way s c;way s a;beside a b;beside b c;"
+        GooseIce x = Check.on("shore s;ice a bears 50;ice b bears 50;ice c bears 50;way s c;way s a;beside a b;"
+            + "beside b c;"
             + "walker v weighs 7 at s;walker w weighs 5 at s;");
         x.sendTo(0, 3);
         x.step(1);
@@ -324,7 +326,8 @@ public final class LakeEdgesTest {
 
     private static void breaksByWhatIsThen() {
         // In one STEP v leaves a and w comes: a is asked behind both, 9 - 2 for w, less 2 for v who came ahead of him.
-        GooseIce x = Check.on("shore s;ice a bears 9;shore t;way s a;way a t;walker v weighs 5 at s;walker w weighs 5 at s;");
+        GooseIce x = Check.on("shore s;ice a bears 9;shore t;way s a;way a t;walker v weighs 5 at s;"
+            + "walker w weighs 5 at s;");
         Check.tray(x, 0, 1, 2);
         x.send(0, 0, 2);
         x.step(1);
@@ -403,9 +406,35 @@ public final class LakeEdgesTest {
         Check.well("ice(0, 3): no LOAD", x, x.ice(0, 3), 0);
     }
 
+    /** Nothing is due of who came into BROKEN ICE, whatever else is due in that STEP. */
+    private static void brokenIsForgottenBesideOthers() {
+        for (int hour = 1; hour <= 4; hour++) {
+            for (int wait = 0; wait < 4; wait++) {
+                GooseIce x = Check.on("ice a bears 50;ice b bears 50;shore s;way s a;way s b;worse 3;better 7;"
+                    + "hour " + hour
+                    + ";walker v weighs 1 at s;walker w weighs 1 at s;");
+                for (int k = 0; k < wait; k++) {
+                    x.step(1);
+                }
+                x.sendTo(0, 0);
+                x.sendTo(1, 1);
+                x.step(1);
+                x.melt(0);
+                x.frost(20);
+                Check.well("ice(0, 2) of HOUR " + hour, x, x.ice(0, 2), 0);
+                x.step(hour);
+                Check.well("ice(0, 0) of HOUR " + hour, x, x.ice(0, 0), 20);
+                Check.well("ice(0, 1) of HOUR " + hour, x, x.ice(0, 1), 20);
+                Check.well("ice(0, 2) of HOUR " + hour, x, x.ice(0, 2), 0);
+                Check.well("ice(1, 0) of HOUR " + hour, x, x.ice(1, 0), 77);
+            }
+        }
+    }
+
     private static void wetOnes() {
         // The ROUTE of who comes into BROKEN ICE ends there.
-        GooseIce x = Check.on("shore s;ice a bears 9;ice b bears 9;shore t;way s a;way a b;way b t;walker v weighs 1 at s;");
+        GooseIce x = Check.on("shore s;ice a bears 9;ice b bears 9;shore t;way s a;way a b;way b t;"
+            + "walker v weighs 1 at s;");
         x.sendTo(0, 3);
         x.melt(2);
         Check.well("step(1)", x, x.step(1), 0);

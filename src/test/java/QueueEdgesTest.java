@@ -58,7 +58,8 @@ public final class QueueEdgesTest {
     }
 
     private static void queueOfTwelve() {
-        GooseIce x = Check.on("shore s;ice a bears 3;shore t;way s a;way a t;hour 1;worse 1;better 0;" + walkers("2 2 2 2"));
+        GooseIce x = Check.on("shore s;ice a bears 3;shore t;way s a;way a t;hour 1;worse 1;"
+            + "better 0;" + walkers("2 2 2 2"));
         // Twelve CELLS: to and fro between s, a and t, six times into a.
         Check.tray(x, 0, 1, 2, 1, 0, 1, 2, 1, 0, 1, 2, 1, 0, 1);
         Check.well("queue of one along twelve", x, x.queue(1, 0, 12), 12);
@@ -122,11 +123,17 @@ public final class QueueEdgesTest {
         x.weigh(0, 5);
         Check.well("queue(3, 0, 2): each must wait, so by WALKERS", x, x.queue(3, 0, 2), 6);
         queueIs("5 ahead of 6", x, 0, 0, 1, 4);
+        // With an HOUR of 2 it is 4 STEPS against 3.
+        GooseIce y = Check.on("shore s;ice a bears 8;shore t;way s a;way a t;hour 2;better 0;" + walkers("4 6"));
+        Check.tray(y, 0, 1, 2);
+        Check.well("queue(3, 0, 2): one STEP fewer", y, y.queue(3, 0, 2), 3);
+        queueIs("6 ahead of 4, one STEP fewer", y, 1, 0, 0, 1);
     }
 
     private static void breaksElsewhere() {
         // b is too weak for who stands on it since then: it BREAKS in the first STEP, whoever goes.
-        GooseIce x = Check.on("shore s;ice a bears 50;shore t;ice b bears 50;way s a;way a t;way s b;" + walkers("1 9"));
+        GooseIce x = Check.on("shore s;ice a bears 50;shore t;ice b bears 50;way s a;way a t;"
+            + "way s b;" + walkers("1 9"));
         Check.tray(x, 0, 1, 2);
         x.sendTo(1, 3);
         x.step(1);
@@ -143,7 +150,8 @@ public final class QueueEdgesTest {
         Check.tray(x, 0, 3);
         Check.none("queue(1, 0, 1) into BROKEN ICE", x, x.queue(1, 0, 1), 6);
         // b, which nobody goes to, is BESIDE a.
-        GooseIce y = Check.on("shore s;ice a bears 50;shore t;ice b bears 4;way s a;way a t;beside a b;" + walkers("4 5"));
+        GooseIce y = Check.on("shore s;ice a bears 50;shore t;ice b bears 4;way s a;way a t;"
+            + "beside a b;" + walkers("4 5"));
         Check.tray(y, 0, 1, 2);
         Check.well("queue(1, 0, 2): 4 BESIDE 4", y, y.queue(1, 0, 2), 2);
         Check.none("queue(2, 0, 2): 5 BESIDE 4", y, y.queue(2, 0, 2), 6);
@@ -155,6 +163,15 @@ public final class QueueEdgesTest {
         Check.tray(x, 0, 1);
         Check.well("queue(3, 0, 1)", x, x.queue(3, 0, 1), 2);
         Check.none("queue(5, 0, 1)", x, x.queue(5, 0, 1), 6);
+        // The same at the end of two CELLS and of three.
+        GooseIce z = Check.on("shore s;ice a bears 9;shore m;shore n;way s m;way m a;way m n;way n a;worse 0;better 0;"
+            + walkers("4 5 6"));
+        Check.tray(z, 0, 2, 1);
+        Check.well("queue(3, 0, 2)", z, z.queue(3, 0, 2), 3);
+        Check.none("queue(5, 0, 2)", z, z.queue(5, 0, 2), 6);
+        Check.tray(z, 0, 2, 3, 1);
+        Check.well("queue(3, 0, 3)", z, z.queue(3, 0, 3), 4);
+        Check.none("queue(5, 0, 3)", z, z.queue(5, 0, 3), 6);
         // WORSE 1: 9 less 1 bears 4, then 9 less 2 not 4 and 5; less 1 for the second alone, 10 by then: 9.
         GooseIce y = Check.on("shore s;ice a bears 9;way s a;worse 1;hour 5;better 1;" + walkers("4 5"));
         Check.tray(y, 0, 1);
@@ -347,6 +364,10 @@ public final class QueueEdgesTest {
         GooseIce one = Check.on("ice a bears 1;shore s;way s a;" + walkers("2"));
         Check.well("suspects(1) with one SHORE", one, one.suspects(1), 0);
         Check.well("suspects(0) with one SHORE", one, one.suspects(0), 0);
+        GooseIce ice = Check.on("ice a bears 1;ice b bears 1;way a b;");
+        Check.well("suspects(3) of ICE alone", ice, ice.suspects(3), 0);
+        Check.none("suspects(4) of ICE alone", ice, ice.suspects(4), 1);
+        Check.none("suspects(-1) of ICE alone", ice, ice.suspects(-1), 1);
         GooseIce none = Check.on("shore s;shore t;" + walkers("2"));
         Check.well("suspects(0) with no WAY", none, none.suspects(0), 0);
         none.hew(0, 1, true);
@@ -387,5 +408,12 @@ public final class QueueEdgesTest {
         Check.none("suspects(511): a SHORE in it", x, x.suspects(511), 1);
         Check.none("suspects(1023): both SHORES in it", x, x.suspects(1023), 1);
         Check.none("suspects(1024): no such CELL", x, x.suspects(1024), 1);
+        // CELL 0 in the middle of the way.
+        GooseIce y = Check.on("ice a bears 1;ice b bears 1;ice c bears 1;shore s;shore t;way s b;way b a;way a c;"
+            + "way c t;"
+            + walkers("1 2"));
+        Check.well("suspects(7): s, b, a, c, t", y, y.suspects(7), 2);
+        Check.well("suspects(6): he would crack a, too", y, y.suspects(6), 0);
+        Check.well("suspects(0): s, b, a, c, t", y, y.suspects(0), 1);
     }
 }

@@ -100,6 +100,9 @@ public final class TaleEdgesTest {
         Check.fraction("meanIn 10 by 8, 8", x, x.meanIn(0, 10, 8, 8), 50, 1);
         Check.fraction("meanIn 10 by 16", x, x.meanIn(0, 10, 16, 0), 60, 1);
         Check.fraction("meanIn 10 by 0, 16", x, x.meanIn(0, 10, 0, 16), 40, 1);
+        Check.fraction("odds of 39 in 10", x, x.odds(0, 39, 10, 8, 8), 1, 1);
+        Check.fraction("odds of 0 in 10", x, x.odds(0, 0, 10, 8, 8), 1, 1);
+        Check.fraction("odds of 61 in 10", x, x.odds(0, 61, 10, 8, 8), 0, 1);
         Check.fraction("meanIn 0", x, x.meanIn(0, 0, 16, 0), 50, 1);
         Check.fraction("meanIn 1 by 1, 0", x, x.meanIn(0, 1, 1, 0), 801, 16);
     }
@@ -134,7 +137,8 @@ public final class TaleEdgesTest {
 
     private static void fractionsAreShort() {
         GooseIce x = bearing(10);
-        int[][] rows = {{16, 1, 1}, {8, 1, 2}, {4, 1, 4}, {2, 1, 8}, {1, 1, 16}, {12, 3, 4}, {6, 3, 8}, {3, 3, 16}, {0, 0, 1}};
+        int[][] rows = {{16, 1, 1}, {8, 1, 2}, {4, 1, 4}, {2, 1, 8}, {1, 1, 16}, {12, 3, 4}, {6, 3, 8}, {3, 3, 16},
+            {0, 0, 1}};
         for (int[] row : rows) {
             Check.fraction("odds of 1 more by " + row[0], x, x.odds(0, 11, 1, row[0], 0), row[1], row[2]);
         }
@@ -190,6 +194,8 @@ public final class TaleEdgesTest {
         // loop, loop, then loop and 99 frosts three times, but for what is above 300.
         livedIs("970,299", y, 0, 0, 0, 0, 1);
         Check.well("ice(1, 0)", y, y.ice(1, 0), 9 + 295);
+        Check.well("live(0) once more begins anew", y, y.live(0), 300);
+        Check.well("ice(1, 0)", y, y.ice(1, 0), 9 + 295 + 295);
     }
 
     private static void leftToBeDone() {
@@ -310,16 +316,22 @@ public final class TaleEdgesTest {
         livedIs("one who is WET", w, 2, 4, 2, 1, 0);
         Check.well("told(8)", w, w.told(8), 1);
         // The same CELL breaks twice, with a FROST in between; two break in one STEP.
-        GooseIce q = with("shore s;ice a bears 3;ice b bears 3;way s a;way s b;walker v weighs 1 at s;walker w weighs 1 at s;"
-            + "walker u weighs 1 at s;", "send v to a;send w to b;step 1;thaw 20;step 1;frost 3;send u to a;thaw 3;step 5;");
+        GooseIce q = with("shore s;ice a bears 3;ice b bears 3;way s a;way s b;walker v weighs 1 at s;"
+            + "walker w weighs 1 at s;"
+            + "walker u weighs 1 at s;", "send v to a;send w to b;step 1;thaw 20;step 1;frost 3;send u to a;thaw 3;"
+            + "step 5;");
         Check.well("live(0)", q, q.live(0), 9);
         livedIs("CELLS that BROKE", q, 0, 7, 3, 3, 0);
         Check.well("told(7)", q, q.told(7), 2);
+        Check.tales(q, "step 1;");
+        q.live(0);
+        livedIs("TALES in which nothing BROKE", q, 0, 1, 0, 0, 0);
     }
 
     private static void seedsDrawAlike() {
         // The draws of 9,999, by hand: 9999 * 2999 + 11177 = 29998178, its rest by 65536 is 48226, by 8 6028.
-        GooseIce x = with("shore a;shore b;shore c;shore d;shore e;shore f;shore g;way a b;way a c;way a d;way a e;way a f;"
+        GooseIce x = with("shore a;shore b;shore c;shore d;shore e;shore f;shore g;way a b;way a c;way a d;way a e;"
+            + "way a f;"
             + "way a g;walker p weighs 1 at a;walker q weighs 1 at a;walker r weighs 1 at a;", "any;step 1;");
         int[] s = {9999};
         int who = draw(s, 3);
@@ -374,18 +386,26 @@ public final class TaleEdgesTest {
 
     private static void meanOfDraws() {
         // Each seed by itself: live() on a twin tells how many are WET behind it.
-        String tales = "loop 4;any;thaw 2;step 1;end;";
-        for (int first : new int[] {0, 4321, 9993}) {
-            int wet = 0;
-            for (int seed = first; seed < first + 7; seed++) {
-                GooseIce one = with(ROW, tales);
-                one.live(seed);
-                wet += Integer.bitCount(one.told(8));
+        String tales = "loop 3;any;thaw 2;step 1;frost 3;end;any;thaw 20;step 1;";
+        String untouched = lakeOf(with(ROW, tales));
+        int[] wetBy = new int[60];
+        for (int seed = 0; seed < 60; seed++) {
+            GooseIce one = with(ROW, tales);
+            one.live(seed);
+            wetBy[seed] = Integer.bitCount(one.told(8));
+        }
+        for (int first = 0; first < 40; first += 3) {
+            for (int many = 1; many <= 20; many++) {
+                int wet = 0;
+                for (int seed = first; seed < first + many; seed++) {
+                    wet += wetBy[seed];
+                }
+                GooseIce x = with(ROW, tales);
+                long shared = gcd(wet, many);
+                Check.fraction("mean(" + first + ", " + many + ")", x, x.mean(first, many), wet / shared,
+                    many / shared);
+                Check.same("mean() changes nothing", lakeOf(x), untouched);
             }
-            GooseIce x = with(ROW, tales);
-            long shared = gcd(wet, 7);
-            Check.fraction("mean(" + first + ", 7)", x, x.mean(first, 7), wet / shared, 7 / shared);
-            Check.same("mean() changes nothing", lakeOf(x), lakeOf(with(ROW, tales)));
         }
     }
 

@@ -124,7 +124,8 @@ public final class TextEdgesTest {
             {1, 32767, 32767}, {1, 32768, -32768}, {1, 65535, -1}, {1, 65536, 0}, {1, -32769, 32767},
             {2, Integer.MAX_VALUE, Integer.MAX_VALUE}, {2, 1L << 31, Integer.MIN_VALUE}, {2, 1L << 32, 0},
             {2, (1L << 32) - 1, -1}, {2, Long.MIN_VALUE, 0}, {2, Long.MAX_VALUE, -1},
-            {3, Long.MAX_VALUE, Long.MAX_VALUE}, {3, Long.MIN_VALUE, Long.MIN_VALUE}, {3, 1L << 32, 1L << 32}, {3, -1, -1}};
+            {3, Long.MAX_VALUE, Long.MAX_VALUE}, {3, Long.MIN_VALUE, Long.MIN_VALUE}, {3, 1L << 32, 1L << 32}, {3, -1,
+                -1}};
         for (long[] row : rows) {
             GooseIce x = new GooseIce();
             x.tray(0, (int) row[0], 1);
@@ -460,6 +461,9 @@ public final class TextEdgesTest {
         Check.well("told(7)", x, x.told(7), 4);
         Check.well("told(8)", x, x.told(8), 1);
         Check.well("told(9)", x, x.told(9), 2);
+        // These try the LAKE out: nothing of what they find may stay either.
+        x.holds();
+        x.mean(0, 20);
         Check.well("the same text again", x, Check.lake(x, text), 3);
         Check.same("a LAKE that is taken", lakeOf(x), lakeOf(Check.on(text)));
         Check.none("live(0): no TALES", x, x.live(0), 6);
@@ -467,6 +471,26 @@ public final class TextEdgesTest {
         GooseIce y = Check.on(text);
         y.step(20);
         Check.same("a LAKE that is taken, 20 STEPS later", lakeOf(x), lakeOf(y));
+        GooseIce z = Check.on("ice a bears 50;ice b bears 50;ice c bears 50;shore s;way s a;way s b;way s c;way a b;"
+            + "beside a b;beside b c;hour 20;better 9;walker v weighs 9 at s;walker w weighs 9 at s;"
+            + "walker u weighs 9 at s;");
+        Check.tray(z, 0, 0, 1, 0, 1, 0);
+        z.send(0, 0, 5);
+        z.sendTo(1, 2);
+        z.step(2);
+        z.melt(2);
+        z.sendTo(2, 1);
+        z.holds();
+        String other = "ice a bears 30;ice b bears 40;shore s;shore t;way s a;hour 3;walker v weighs 1 at s;"
+            + "walker w weighs 1 at t;";
+        Check.well("another text", z, Check.lake(z, other), 4);
+        GooseIce fresh = Check.on(other);
+        Check.same("another LAKE that is taken", lakeOf(z), lakeOf(fresh));
+        for (GooseIce one : new GooseIce[] {z, fresh}) {
+            one.sendTo(0, 0);
+            one.step(3);
+        }
+        Check.same("another LAKE that is taken, 3 STEPS later", lakeOf(z), lakeOf(fresh));
     }
 
     private static String lakeOf(GooseIce x) {
@@ -500,7 +524,8 @@ public final class TextEdgesTest {
         }
         Check.talesFault(LAKE, thirty + "end;", 2, 120);
         Check.talesFault(LAKE, thirty + "ice", 2, 120);
-        Check.well("thirty STEPS and ends", x, Check.tales(x, "loop 1;".repeat(3) + "any;".repeat(27) + "end;".repeat(3)), 30);
+        Check.well("thirty STEPS and ends", x, Check.tales(x,
+            "loop 1;".repeat(3) + "any;".repeat(27) + "end;".repeat(3)), 30);
         Check.talesFault(LAKE, "loop 1;".repeat(3) + "any;".repeat(27) + "end;".repeat(3) + "any;", 6, 21 + 108 + 12);
         // Of one TOKEN the least kind: a 31st STEP that is within three others.
         Check.talesFault(LAKE, "loop 1;".repeat(3) + "any;".repeat(27) + "loop 1;", 6, 21 + 108);
@@ -577,7 +602,8 @@ public final class TextEdgesTest {
         Check.talesFault(LAKE, "when at w in w;end;", 3, 13);
         Check.talesFault(LAKE, "when wet s;end;", 3, 9);
         GooseIce x = Check.on(LAKE);
-        Check.well("a SHORE is a CELL, too", x, Check.tales(x, "send w to s;when bears s = 0;end;when at w in s;end;"), 3);
+        Check.well("a SHORE is a CELL, too", x, Check.tales(x, "send w to s;when bears s = 0;end;when at w in s;"
+            + "end;"), 3);
     }
 
     private static void talesAreKept() {

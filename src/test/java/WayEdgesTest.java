@@ -129,7 +129,8 @@ public final class WayEdgesTest {
 
     private static void whereHeIs() {
         // v stands on ICE that would not BEAR him now: he may leave it all the same.
-        GooseIce x = Check.on("shore s;ice a bears 9;ice b bears 200;shore t;way s a;way a b;way b t;walker v weighs 5 at s;");
+        GooseIce x = Check.on("shore s;ice a bears 9;ice b bears 200;shore t;way s a;way a b;way b t;"
+            + "walker v weighs 5 at s;");
         x.sendTo(0, 1);
         x.step(1);
         x.thaw(9);
@@ -171,7 +172,8 @@ public final class WayEdgesTest {
     // ---- promises 34 to 37
 
     private static void surestBounds() {
-        GooseIce x = Check.on("shore s;shore t;shore u;ice a bears 9;way s t;way t u;way s a;way a u;walker v weighs 1 at s;");
+        GooseIce x = Check.on("shore s;shore t;shore u;ice a bears 9;way s t;way t u;way s a;way a u;"
+            + "walker v weighs 1 at s;");
         Check.well("surest(0, 1) by SHORES alone", x, x.surest(0, 1), 999);
         Check.well("surest(0, 2) by SHORES alone", x, x.surest(0, 2), 999);
         Check.well("surestFar(0, 2)", x, x.surestFar(0, 2), 2);
@@ -191,7 +193,8 @@ public final class WayEdgesTest {
 
     private static void surestOfSeveral() {
         // Least MARGINS for v (1): by a 4; by b and c 7 and 7; by d and e 7 and 9: the last two are alike.
-        GooseIce x = Check.on("ice d bears 10;ice b bears 10;shore s;ice a bears 7;ice c bears 10;ice e bears 12;shore t;"
+        GooseIce x = Check.on("ice d bears 10;ice b bears 10;shore s;ice a bears 7;ice c bears 10;ice e bears 12;"
+            + "shore t;"
             + "way s a;way a t;way s b;way b c;way c t;way s d;way d e;way e t;walker v weighs 1 at s;");
         Check.well("surest(0, 6)", x, x.surest(0, 6), 7);
         Check.well("surestFar(0, 6)", x, x.surestFar(0, 6), 3);
@@ -199,6 +202,13 @@ public final class WayEdgesTest {
         Check.well("surestAt(0, 6, 1)", x, x.surestAt(0, 6, 1), 5);
         Check.well("surestAt(0, 6, 2)", x, x.surestAt(0, 6, 2), 6);
         Check.well("far(0, 6): WAY is the shorter one", x, x.far(0, 6), 2);
+        // The least MARGIN may be that of any CELL: of the first, of the last.
+        GooseIce y = Check.on("ice a bears 5;shore s;ice b bears 9;shore t;ice c bears 4;way s a;way a b;way b t;"
+            + "way s c;"
+            + "way c t;walker v weighs 1 at s;");
+        Check.well("surest(0, 3): that of CELL 0", y, y.surest(0, 3), 2);
+        y.hew(0, 1, false);
+        Check.well("surest(0, 3): that of CELL 4", y, y.surest(0, 3), 1);
         x.hew(1, 6, true);
         Check.well("surestFar(0, 6): the fewest STEPS of such", x, x.surestFar(0, 6), 2);
         Check.well("surestAt(0, 6, 0)", x, x.surestAt(0, 6, 0), 1);
@@ -226,7 +236,8 @@ public final class WayEdgesTest {
         StringBuilder b = new StringBuilder("shore s;shore t;");
         for (int k = 0; k < many; k++) {
             char name = (char) ('a' + k);
-            b.append("ice ").append(name).append(" bears 9;way s ").append(name).append(";way ").append(name).append(" t;");
+            b.append("ice ").append(name).append(" bears 9;way s ").append(name).append(";"
+                + "way ").append(name).append(" t;");
         }
         return b.toString();
     }
@@ -247,7 +258,8 @@ public final class WayEdgesTest {
 
     private static void cutOfSeveral() {
         // s - c - b - a - t: one of three, the least as a number, wherever it lies.
-        GooseIce x = Check.on("ice a bears 9;ice b bears 9;ice c bears 9;shore s;shore t;way s c;way c b;way b a;way a t;"
+        GooseIce x = Check.on("ice a bears 9;ice b bears 9;ice c bears 9;shore s;shore t;way s c;way c b;way b a;"
+            + "way a t;"
             + "walker v weighs 1 at s;");
         Check.well("cut(0, 4)", x, x.cut(0, 4), 1);
         Check.well("cutSet(0, 4)", x, x.cutSet(0, 4), 1);
@@ -262,14 +274,16 @@ public final class WayEdgesTest {
         y.hew(0, 1, true);
         Check.well("cutSet(0, 6): a is no part of it", y, y.cutSet(0, 6), 6);
         // One that all must cross with a high number, ahead of two with low ones.
-        GooseIce z = Check.on("ice a bears 9;ice b bears 9;shore s;shore t;ice e bears 9;way s a;way s b;way a e;way b e;"
+        GooseIce z = Check.on("ice a bears 9;ice b bears 9;shore s;shore t;ice e bears 9;way s a;way s b;way a e;"
+            + "way b e;"
             + "way e t;walker v weighs 1 at s;");
         Check.well("cut(0, 3)", z, z.cut(0, 3), 1);
         Check.well("cutSet(0, 3): the fewest", z, z.cutSet(0, 3), 16);
     }
 
     private static void cutNextToHim() {
-        GooseIce x = Check.on("shore s;ice a bears 9;shore t;ice b bears 0;way s a;way a t;way s b;walker v weighs 1 at s;");
+        GooseIce x = Check.on("shore s;ice a bears 9;shore t;ice b bears 0;way s a;way a t;way s b;"
+            + "walker v weighs 1 at s;");
         Check.none("cut(0, 1): next to him", x, x.cut(0, 1), 6);
         Check.none("cut(0, 3): next to him, though it does not BEAR him", x, x.cut(0, 3), 6);
         Check.none("cutSet(0, 3)", x, x.cutSet(0, 3), 6);
@@ -287,7 +301,8 @@ public final class WayEdgesTest {
     // ---- promises 40 to 43
 
     private static void heaviestBounds() {
-        GooseIce x = Check.on("shore s;ice a bears 9;ice b bears 30;shore t;way s a;way a b;way b t;way s t;walker v weighs 5 at s;"
+        GooseIce x = Check.on("shore s;ice a bears 9;ice b bears 30;shore t;way s a;way a b;way b t;way s t;"
+            + "walker v weighs 5 at s;"
             + "walker w weighs 3 at t;");
         Check.tray(x, 0, 1, 2, 3);
         x.send(0, 0, 3);
@@ -301,6 +316,12 @@ public final class WayEdgesTest {
         x.step(1);
         // v is in a, w in b: b is still ahead of v.
         Check.well("heaviest(0): 30 - 4 - 3", x, x.heaviest(0), 23);
+        x.weigh(1, 26);
+        Check.well("heaviest(0): 30 - 4 - 26", x, x.heaviest(0), 0);
+        x.weigh(1, 27);
+        Check.well("heaviest(0): 0 at least, with others", x, x.heaviest(0), 0);
+        x.weigh(1, 99);
+        Check.well("heaviest(0): 0 at least, with very heavy ones", x, x.heaviest(0), 0);
         x.melt(2);
         Check.well("heaviest(0) into BROKEN ICE", x, x.heaviest(0), 0);
         x.halt(0);
@@ -311,7 +332,8 @@ public final class WayEdgesTest {
     }
 
     private static void weakestBounds() {
-        GooseIce x = Check.on("ice a bears 9;ice b bears 8;shore s;ice c bears 8;way s b;way s a;walker v weighs 1 at s;");
+        GooseIce x = Check.on("ice a bears 9;ice b bears 8;shore s;ice c bears 8;way s b;way s a;"
+            + "walker v weighs 1 at s;");
         Check.well("weakest(): the first of two", x, x.weakest(), 1);
         x.sendTo(0, 0);
         x.step(1);
