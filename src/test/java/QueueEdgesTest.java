@@ -149,6 +149,12 @@ public final class QueueEdgesTest {
         Check.none("queue(1, 0, 2) into BROKEN ICE", x, x.queue(1, 0, 2), 6);
         Check.tray(x, 0, 3);
         Check.none("queue(1, 0, 1) into BROKEN ICE", x, x.queue(1, 0, 1), 6);
+        // Of a longer row the first n alone are asked.
+        x.frost(20);
+        x.melt(3);
+        Check.tray(x, 0, 1, 0, 3);
+        Check.none("queue(1, 0, 3): BROKEN ICE at the end", x, x.queue(1, 0, 3), 6);
+        Check.well("queue(1, 0, 2): it is behind the end", x, x.queue(1, 0, 2), 2);
         // b, which nobody goes to, is BESIDE a.
         GooseIce y = Check.on("shore s;ice a bears 50;shore t;ice b bears 4;way s a;way a t;"
             + "beside a b;" + walkers("4 5"));
@@ -293,6 +299,10 @@ public final class QueueEdgesTest {
         Check.none("groups(7, 1)", y, y.groups(7, 1), 6);
         Check.well("groups(7, 2)", y, y.groups(7, 2), 2);
         Check.well("groups(15, 101)", y, y.groups(15, 101), 2);
+        GooseIce few = Check.on("shore s;" + walkers("2 2 1 1 2 2 1"));
+        Check.well("groups(7, 2): 2, 2, 1", few, few.groups(7, 2), 3);
+        Check.well("groups(127, 2): 2, 2, 2, 2, 1 + 1, 1", few, few.groups(127, 2), 6);
+        Check.well("groups(63, 2): 2, 2, 2, 2, 1 + 1", few, few.groups(63, 2), 5);
         // 6 6 5 5 4 4 by 10: taking the heaviest that fits would need four.
         GooseIce z = Check.on("shore s;" + walkers("4 5 6 4 5 6"));
         Check.well("groups(63, 10)", z, z.groups(63, 10), 3);
@@ -411,8 +421,10 @@ public final class QueueEdgesTest {
         // CELL 0 in the middle of the way.
         GooseIce y = Check.on("ice a bears 1;ice b bears 1;ice c bears 1;shore s;shore t;way s b;way b a;way a c;"
             + "way c t;"
-            + walkers("1 2"));
-        Check.well("suspects(7): s, b, a, c, t", y, y.suspects(7), 2);
+            + walkers("1 2 2"));
+        Check.well("groups(7, 99)", y, y.groups(7, 99), 1);
+        Check.well("suspects(3): he would crack c, too", y, y.suspects(3), 0);
+        Check.well("suspects(7): s, b, a, c, t", y, y.suspects(7), 6);
         Check.well("suspects(6): he would crack a, too", y, y.suspects(6), 0);
         Check.well("suspects(0): s, b, a, c, t", y, y.suspects(0), 1);
     }
