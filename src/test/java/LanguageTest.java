@@ -6,6 +6,8 @@ import java.nio.file.Files;
 import java.nio.file.Path;
 import java.util.ArrayList;
 import java.util.List;
+import java.util.Map;
+import java.util.TreeMap;
 import java.util.TreeSet;
 import java.util.regex.Matcher;
 import java.util.regex.Pattern;
@@ -31,6 +33,8 @@ public final class LanguageTest {
             .replaceAll("\"[^\"]*\"", "\"\"");
         words(bare);
         methods(bare);
+        new Calls(bare).askDepth();
+        loops(bare);
         Check.end();
     }
 
@@ -119,6 +123,93 @@ public final class LanguageTest {
                 rule("rule 11: the method at line " + (from + 1) + " is short", k - from < 60);
                 from = k;
             }
+        }
+    }
+
+    /** Rule 9: a while has a counter in its own lines; a for without a bound, or a do, would have to be read. */
+    private static void loops(String bare) {
+        rule("rule 9: no do", !bare.matches("(?s).*\\bdo \\{.*"));
+        rule("rule 9: no for without a test", !bare.matches("(?s).*for \\([^;()]*;\\s*;.*"));
+        Matcher m = Pattern.compile("while \\((.*)\\) \\{((?s).*?)\n\\s*\\}").matcher(bare);
+        while (m.find()) {
+            Matcher counter = Pattern.compile("(\\w+) < ").matcher(m.group(1));
+            rule("rule 9: while (" + m.group(1) + ") counts",
+                counter.find() && m.group(2).contains(counter.group(1) + "++;"));
+        }
+    }
+
+    /** Who calls whom, by the names in the source: of methods that bear one name in several classes, all are meant. */
+    private static final class Calls {
+        private static final Pattern HEAD = Pattern.compile(
+            "^( {4}| {8})(?:private|public) (?:static )?(?:[\\w\\[\\]]+ )?(\\w+)\\(.*\\) \\{$");
+        private static final Pattern CALL = Pattern.compile("([\\w\\]]+\\.)?\\b([a-z]\\w*)\\(");
+        private final Map<String, String> bodies = new TreeMap<>();
+        private final Map<String, Integer> depths = new TreeMap<>();
+        private final List<String> open = new ArrayList<>();
+
+        Calls(String bare) {
+            String type = "GooseIce";
+            String[] lines = bare.split("\n");
+            for (int k = 0; k < lines.length; k++) {
+                Matcher inside = Pattern.compile("^ {4}private static final class (\\w+) .*").matcher(lines[k]);
+                Matcher head = HEAD.matcher(lines[k]);
+                if (inside.matches()) {
+                    type = inside.group(1);
+                } else if (head.matches()) {
+                    StringBuilder body = new StringBuilder();
+                    for (k++; !lines[k].equals(head.group(1) + "}"); k++) {
+                        body.append(lines[k]).append('\n');
+                    }
+                    bodies.put(type + "." + head.group(2), body.toString());
+                }
+            }
+        }
+
+        void askDepth() {
+            rule("all methods are found", bodies.size() > 150);
+            int most = 0;
+            for (String method : bodies.keySet()) {
+                most = Math.max(most, depth(method));
+            }
+            rule("rule 11: calls go " + most + " deep, eight are the most", most <= 8);
+        }
+
+        private int depth(String method) {
+            if (depths.containsKey(method)) {
+                return depths.get(method);
+            }
+            rule("rule 8: " + open + " call one another", !open.contains(method));
+            if (open.contains(method)) {
+                return 0;
+            }
+            open.add(method);
+            int below = 0;
+            for (String called : calledBy(method)) {
+                below = Math.max(below, depth(called));
+            }
+            open.remove(method);
+            depths.put(method, below + 1);
+            return below + 1;
+        }
+
+        private TreeSet<String> calledBy(String method) {
+            String type = method.substring(0, method.indexOf('.'));
+            TreeSet<String> called = new TreeSet<>();
+            Matcher m = CALL.matcher(bodies.get(method));
+            while (m.find()) {
+                boolean own = m.group(1) == null && bodies.containsKey(type + "." + m.group(2));
+                boolean outer = m.group(1) == null && !own;
+                for (String other : bodies.keySet()) {
+                    boolean fits = own ? other.equals(type + "." + m.group(2))
+                        : outer ? other.equals("GooseIce." + m.group(2))
+                        : other.endsWith("." + m.group(2)) && !other.startsWith("GooseIce.");
+                    // A method that calls itself is recursion, which rule 8 is for.
+                    if (fits && !other.equals(method)) {
+                        called.add(other);
+                    }
+                }
+            }
+            return called;
         }
     }
 }
